@@ -20,7 +20,7 @@ public final class ReinHall {
     private static final int PRICE = 0, KIND = 1;
 
     private final Text text = new Text();
-    private final Reader reader = new Reader(text);
+    private final Reader reader = new Reader();
     private World land = new World();
     private World spareLand = new World();
     private final Book book = new Book();
@@ -37,6 +37,7 @@ public final class ReinHall {
         }
         land.rest = ALL_STATES;
         land.settle();
+        land.rounds.find(land);
         book.addMaster(NONE, MOST_LIMIT);
     }
 
@@ -62,7 +63,7 @@ public final class ReinHall {
     }
 
     public int world() {
-        int fault = reader.readInto(spareLand);
+        int fault = reader.readInto(spareLand, text);
         if (fault >= 0) {
             return REFUSED - fault;
         }
@@ -70,6 +71,7 @@ public final class ReinHall {
         spareLand = land;
         land = told;
         land.settle();
+        land.rounds.find(land);
         text.length = 0;
         return land.ways;
     }
@@ -586,20 +588,10 @@ public final class ReinHall {
         }
     }
 
-    /** The text, and the tokens in it, one at a time. */
+    /** The bytes typed so far. */
     private static final class Text {
-        static final int END = 0, NUMBER = 1, DOING = 2, NEVER = 3, GOAL = 4, REST = 5, BAR = 6;
-        static final int ARROW = 7, STOP = 8, WRONG = 9;
-
         private final int[] bytes = new int[TEXT_ROOM];
         private int length;
-        /** Where the next token is looked for. */
-        private int place;
-        private int token;
-        /** Where the token begins; the text's length at the end. */
-        private int start;
-        /** Which number or doing the token is. */
-        private int value;
 
         void append(int b) {
             if (length >= 0 && length < TEXT_ROOM) {
@@ -611,66 +603,120 @@ public final class ReinHall {
         int byteAt(int i) {
             return i >= 0 && i < length && i < TEXT_ROOM ? bytes[i] : -1;
         }
+    }
 
-        void begin() {
-            place = 0;
-            step();
+    /** The tokens of a text, walked one at a time; behind the last one stands the end. */
+    private static final class Tokens {
+        static final int END = 0, NUMBER = 1, DOING = 2, NEVER = 3, GOAL = 4, REST = 5, BAR = 6;
+        static final int ARROW = 7, STOP = 8, WRONG = 9;
+
+        private final int[] sorts = new int[TEXT_ROOM + 1];
+        /** Which number or doing a token is. */
+        private final int[] values = new int[TEXT_ROOM + 1];
+        /** Where a token begins; the text's length at the end. */
+        private final int[] starts = new int[TEXT_ROOM + 1];
+        private int count;
+        private int at;
+
+        void split(Text text) {
+            count = 0;
+            at = 0;
+            int place = 0;
+            while (place < text.length) {
+                int end = Math.max(endOf(text, place), place + 1);
+                int b = text.byteAt(place);
+                if (isDigit(b)) {
+                    addNumber(text, place, end);
+                } else if (isLetter(b)) {
+                    addWord(text, place, end);
+                } else if (b != ' ') {
+                    addToken(b == '>' ? ARROW : b == ';' ? STOP : WRONG, 0, place);
+                }
+                place = end;
+            }
+            addToken(END, 0, text.length);
         }
 
-        /** Goes on to the next token. */
+        int sort() {
+            return at >= 0 && at < count && at <= TEXT_ROOM ? sorts[at] : END;
+        }
+
+        int value() {
+            return at >= 0 && at < count && at <= TEXT_ROOM ? values[at] : 0;
+        }
+
+        int start() {
+            return at >= 0 && at < count && at <= TEXT_ROOM ? starts[at] : 0;
+        }
+
         void step() {
-            while (place < length && byteAt(place) == ' ') {
-                place++;
-            }
-            start = place;
-            value = 0;
-            int b = byteAt(place);
-            if (b < 0) {
-                token = END;
-            } else if (isDigit(b)) {
-                readNumber();
-            } else if (isLetter(b)) {
-                readWord();
-            } else {
-                place++;
-                token = b == '>' ? ARROW : b == ';' ? STOP : WRONG;
+            if (at < count - 1) {
+                at++;
             }
         }
 
-        private void readNumber() {
-            while (place < length && isDigit(byteAt(place))) {
+        /** Goes on, if the token is of that sort: whether it is. */
+        boolean pass(int sort) {
+            boolean stands = sort() == sort;
+            if (stands) {
+                step();
+            }
+            return stands;
+        }
+
+        private void addToken(int sort, int value, int start) {
+            if (count >= 0 && count <= TEXT_ROOM) {
+                sorts[count] = sort;
+                values[count] = value;
+                starts[count] = start;
+                count++;
+            }
+        }
+
+        /** Where the row of digits or of letters ends that begins at a place. */
+        private static int endOf(Text text, int start) {
+            boolean digits = isDigit(text.byteAt(start));
+            boolean letters = isLetter(text.byteAt(start));
+            for (int i = start; i < text.length; i++) {
+                int b = text.byteAt(i);
+                if (!(digits && isDigit(b)) && !(letters && isLetter(b))) {
+                    return i;
+                }
+            }
+            return text.length;
+        }
+
+        private void addNumber(Text text, int start, int end) {
+            int value = 0;
+            for (int i = start; i < end; i++) {
                 // held low, so that a long row of digits can't come round to a small number
-                value = Math.min(value * 10 + byteAt(place) - '0', 1000);
-                place++;
+                value = Math.min(value * 10 + text.byteAt(i) - '0', STATES);
             }
-            boolean zeroAhead = byteAt(start) == '0' && place > start + 1;
-            token = zeroAhead || !isState(value) ? WRONG : NUMBER;
+            boolean zeroAhead = text.byteAt(start) == '0' && end > start + 1;
+            addToken(zeroAhead || value >= STATES ? WRONG : NUMBER, value, start);
         }
 
-        private void readWord() {
-            while (place < length && isLetter(byteAt(place))) {
-                place++;
-            }
-            if (place == start + 1 && byteAt(start) <= 'h') {
-                token = DOING;
-                value = byteAt(start) - 'a';
-            } else if (isWord("never")) {
-                token = NEVER;
-            } else if (isWord("goal")) {
-                token = GOAL;
-            } else if (isWord("rest")) {
-                token = REST;
+        private void addWord(Text text, int start, int end) {
+            int b = text.byteAt(start);
+            if (end == start + 1 && b <= 'h') {
+                addToken(DOING, b - 'a', start);
+            } else if (isWord(text, start, end, "never")) {
+                addToken(NEVER, 0, start);
+            } else if (isWord(text, start, end, "goal")) {
+                addToken(GOAL, 0, start);
+            } else if (isWord(text, start, end, "rest")) {
+                addToken(REST, 0, start);
             } else {
-                token = isWord("bar") ? BAR : WRONG;
+                addToken(isWord(text, start, end, "bar") ? BAR : WRONG, 0, start);
             }
         }
 
-        private boolean isWord(String word) {
-            if (place - start != word.length()) {
+        private static boolean isWord(Text text, int start, int end, String word) {
+            if (end - start != word.length()) {
                 return false;
             }
             for (int i = 0; i < word.length(); i++) {
-                if (byteAt(start + i) != word.charAt(i)) {
+                if (text.byteAt(start + i) != word.charAt(i)) {
                     return false;
                 }
             }
@@ -686,37 +732,33 @@ public final class ReinHall {
         }
     }
 
-    /** Reads the items of the text into a world; stops at the first token that can't stand there. */
+    /** Reads the items of a text into a world; stops at the first token that can't stand there. */
     private static final class Reader {
-        private final Text text;
-
-        Reader(Text text) {
-            this.text = text;
-        }
+        private final Tokens tokens = new Tokens();
 
         /** The place of the fault, or NONE. */
-        int readInto(World into) {
+        int readInto(World into, Text text) {
             into.empty();
-            text.begin();
-            // each item has a byte at least
+            tokens.split(text);
+            // each item has a token at least
             for (int i = 0; i <= TEXT_ROOM; i++) {
-                if (text.token == Text.END) {
+                if (tokens.sort() == Tokens.END) {
                     return NONE;
                 }
                 if (!readItem(into)) {
-                    return text.start;
+                    return tokens.start();
                 }
             }
-            return text.start;
+            return tokens.start();
         }
 
         private boolean readItem(World into) {
-            switch (text.token) {
-                case Text.NUMBER: return readWay(into);
-                case Text.NEVER: return readStates(into, Text.NEVER);
-                case Text.GOAL: return readStates(into, Text.GOAL);
-                case Text.REST: return readStates(into, Text.REST);
-                case Text.BAR: return readBar(into);
+            switch (tokens.sort()) {
+                case Tokens.NUMBER: return readWay(into);
+                case Tokens.NEVER:
+                case Tokens.GOAL:
+                case Tokens.REST: return readStates(into);
+                case Tokens.BAR: return readBar(into);
                 default: return false;
             }
         }
@@ -725,62 +767,54 @@ public final class ReinHall {
             if (into.ways >= WAYS) {
                 return false;
             }
-            int state = text.value;
-            text.step();
-            if (text.token != Text.DOING || into.lotsIn(state, text.value) > 0) {
+            int state = tokens.value();
+            tokens.step();
+            int doing = tokens.value();
+            if (tokens.sort() != Tokens.DOING || into.lotsIn(state, doing) > 0) {
                 return false;
             }
-            int doing = text.value;
-            text.step();
-            if (!pass(Text.ARROW) || text.token != Text.NUMBER) {
+            tokens.step();
+            if (!tokens.pass(Tokens.ARROW) || tokens.sort() != Tokens.NUMBER) {
                 return false;
             }
-            for (int i = 0; i < LOTS && text.token == Text.NUMBER; i++) {
-                if (!into.addLot(state, doing, text.value)) {
+            for (int i = 0; i < LOTS && tokens.sort() == Tokens.NUMBER; i++) {
+                if (!into.addLot(state, doing, tokens.value())) {
                     return false;
                 }
-                text.step();
+                tokens.step();
             }
             into.ways++;
-            return pass(Text.STOP);
+            return tokens.pass(Tokens.STOP);
         }
 
-        private boolean readStates(World into, int word) {
-            text.step();
-            if (text.token != Text.NUMBER) {
+        private boolean readStates(World into) {
+            int word = tokens.sort();
+            tokens.step();
+            if (tokens.sort() != Tokens.NUMBER) {
                 return false;
             }
-            for (int i = 0; i < ROW_ROOM && text.token == Text.NUMBER; i++) {
-                into.addState(word, text.value);
-                text.step();
+            for (int i = 0; i < ROW_ROOM && tokens.sort() == Tokens.NUMBER; i++) {
+                into.addState(word, tokens.value());
+                tokens.step();
             }
-            return pass(Text.STOP);
+            return tokens.pass(Tokens.STOP);
         }
 
         private boolean readBar(World into) {
             if (into.bars >= BARS) {
                 return false;
             }
-            text.step();
-            if (text.token != Text.NUMBER) {
+            tokens.step();
+            int from = tokens.value();
+            if (!tokens.pass(Tokens.NUMBER) || !tokens.pass(Tokens.ARROW)) {
                 return false;
             }
-            int from = text.value;
-            text.step();
-            if (!pass(Text.ARROW) || text.token != Text.NUMBER) {
+            int to = tokens.value();
+            if (!tokens.pass(Tokens.NUMBER)) {
                 return false;
             }
-            into.addBar(from, text.value);
-            text.step();
-            return pass(Text.STOP);
-        }
-
-        private boolean pass(int token) {
-            if (text.token != token) {
-                return false;
-            }
-            text.step();
-            return true;
+            into.addBar(from, to);
+            return tokens.pass(Tokens.STOP);
         }
     }
 
@@ -813,7 +847,8 @@ public final class ReinHall {
         }
 
         private static int wayOf(int state, int doing) {
-            return isState(state) && isDoing(doing) ? state * DOINGS + doing : -1;
+            boolean stands = state >= 0 && state < STATES && doing >= 0 && doing < DOINGS;
+            return stands ? state * DOINGS + doing : -1;
         }
 
         /** False, if there is no room for it or it is told already. */
@@ -830,9 +865,9 @@ public final class ReinHall {
 
         void addState(int word, int state) {
             int bit = isState(state) ? 1 << state : 0;
-            if (word == Text.NEVER) {
+            if (word == Tokens.NEVER) {
                 never |= bit;
-            } else if (word == Text.GOAL) {
+            } else if (word == Tokens.GOAL) {
                 goal |= bit;
             } else {
                 rest |= bit;
@@ -898,7 +933,7 @@ public final class ReinHall {
             return set == GOAL_SET ? toGoal[state] : toRest[state];
         }
 
-        /** Works out all that follows from what the text tells. */
+        /** Works out which states are safe, and all that follows. */
         void settle() {
             broken = never | stuckStates();
             safe = ALL_STATES & ~broken;
@@ -912,13 +947,12 @@ public final class ReinHall {
             settleDooms();
             settleSure(goal, toGoal);
             settleSure(rest, toRest);
-            rounds.find(this);
         }
 
         private int stuckStates() {
             int stuck = 0;
             for (int s = 0; s < STATES; s++) {
-                if (!hasBit(rest, s) && doingsIn(s) == 0) {
+                if (!hasBit(rest, s) && doingsInto(s, ALL_STATES) == 0) {
                     stuck |= 1 << s;
                 }
             }
@@ -933,11 +967,6 @@ public final class ReinHall {
                 }
             }
             return left;
-        }
-
-        /** The doings that have a way in a state. */
-        private int doingsIn(int state) {
-            return doingsInto(state, ALL_STATES);
         }
 
         /** The doings that have a way in a state all lots of which are in a set. */
@@ -1122,7 +1151,7 @@ public final class ReinHall {
         }
 
         private int cellOf(int row, int column) {
-            if (!has(row) || column < 0 || column >= width) {
+            if (row < 0 || row >= rows || column < 0 || column >= width) {
                 return -1;
             }
             int cell = row * width + column;
@@ -1145,7 +1174,7 @@ public final class ReinHall {
             put(row, column, get(row, column) + v);
         }
 
-        void copyFrom(Table other) {
+        void copyRows(Table other) {
             rows = other.rows;
             for (int c = 0; c < cells.length && c < other.cells.length; c++) {
                 cells[c] = other.cells[c];
@@ -1174,10 +1203,10 @@ public final class ReinHall {
         private boolean isKept;
 
         void copyFrom(Book other) {
-            masters.copyFrom(other.masters);
-            machines.copyFrom(other.machines);
-            leaves.copyFrom(other.leaves);
-            lines.copyFrom(other.lines);
+            masters.copyRows(other.masters);
+            machines.copyRows(other.machines);
+            leaves.copyRows(other.leaves);
+            lines.copyRows(other.lines);
             tick = other.tick;
         }
 

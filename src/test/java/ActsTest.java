@@ -28,6 +28,14 @@ public final class ActsTest {
         Check.due("guard -1", x.act(0, 0, 0, -1), ReinHall.BAD);
         Check.due("guard 2", x.act(0, 0, 0, 2), ReinHall.BAD);
         Check.due("the tick is as it was", x.count(6), 0);
+        ReinHall y = Check.of("0 a>4 3 2 1;1 a>1;");
+        y.machine(0, 0);
+        y.machine(0, 0);
+        y.give(0, 0, 1, 9, 100);
+        Check.due("the fourth lot", y.act(0, 0, 3, 0), 0);
+        Check.due("it is there", y.about(0, 0), 1);
+        Check.due("the other is not", y.about(1, 0), 0);
+        Check.due("no line of the other", y.undo(1), ReinHall.STATE);
     }
 
     private static void refusals() {

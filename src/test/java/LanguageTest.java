@@ -1,6 +1,8 @@
 import java.nio.charset.StandardCharsets;
 import java.nio.file.Files;
 import java.nio.file.Path;
+import java.util.HashMap;
+import java.util.Map;
 import java.util.regex.Matcher;
 import java.util.regex.Pattern;
 
@@ -25,6 +27,7 @@ public final class LanguageTest {
         staticFieldsAreFinal(code);
         methodsAreShort(code);
         onlyConstructorsMake(code);
+        callsAreNotDeep(code);
         Check.finish();
     }
 
@@ -39,13 +42,19 @@ public final class LanguageTest {
         Check.holds("static fields are final", !m.find());
     }
 
+    private static final Pattern HEAD =
+            Pattern.compile("^( {4}| {8})(?! )[^=;]*?(\\w+)\\(([^)]*)\\)\\s*\\{\\s*$");
+
+    private static boolean isHead(Matcher m, String line) {
+        return m.find() && !line.trim().matches("(if|for|while|switch|else|\\}).*");
+    }
+
     private static void methodsAreShort(String code) {
         String[] lines = code.split("\n", -1);
-        Pattern head = Pattern.compile("^( {4}| {8})(?! )[^=;]*\\(([^)]*)\\)\\s*\\{\\s*$");
         int found = 0;
         for (int i = 0; i < lines.length; i++) {
-            Matcher m = head.matcher(lines[i]);
-            if (!m.find() || lines[i].trim().matches("(if|for|while|switch|else|\\}).*")) {
+            Matcher m = HEAD.matcher(lines[i]);
+            if (!isHead(m, lines[i])) {
                 continue;
             }
             found++;
@@ -55,10 +64,41 @@ public final class LanguageTest {
                 last++;
             }
             Check.holds("at most sixty lines from " + lines[i].trim(), last - i < 60);
-            int parameters = m.group(2).isBlank() ? 0 : m.group(2).split(",").length;
+            int parameters = m.group(3).isBlank() ? 0 : m.group(3).split(",").length;
             Check.holds("at most seven parameters of " + lines[i].trim(), parameters <= 7);
         }
         Check.holds("the methods are found", found > 80);
+    }
+
+    /** Rules 8 and 11: no recursion, and calls that go at most eight deep; methods are told apart by name. */
+    private static void callsAreNotDeep(String code) {
+        Map<String, StringBuilder> bodies = new HashMap<>();
+        StringBuilder body = new StringBuilder();
+        for (String line : code.split("\n")) {
+            Matcher m = HEAD.matcher(line);
+            if (isHead(m, line)) {
+                body = bodies.computeIfAbsent(m.group(2), k -> new StringBuilder());
+            } else {
+                body.append(line).append('\n');
+            }
+        }
+        int deepest = 0;
+        for (String name : bodies.keySet()) {
+            deepest = Math.max(deepest, depth(name, bodies, 1));
+        }
+        Check.holds("calls go at most eight deep, and not " + deepest, deepest <= 8);
+        Check.holds("calls are found: " + deepest, deepest >= 5);
+    }
+
+    private static int depth(String name, Map<String, StringBuilder> bodies, int above) {
+        int deepest = above;
+        Matcher m = Pattern.compile("(\\w+)\\(").matcher(bodies.get(name));
+        while (m.find() && above < 20) {
+            if (bodies.containsKey(m.group(1))) {
+                deepest = Math.max(deepest, depth(m.group(1), bodies, above + 1));
+            }
+        }
+        return deepest;
     }
 
     /** Rule 12: what is made is made once, by a field's initialiser or in a constructor. */

@@ -35,6 +35,8 @@ public final class WatchTest {
         round(Check.of("0 b>1 2;1 a>4;2 a>4;bar 0>4;"), 1, 0, 2, 1);
         // from a state to itself, all of a and b
         round(Check.of("0 a>0;0 b>0;bar 0>0;"), 4 + 8, 0, 2, 0);
+        // a later lot of a later doing
+        round(Check.of("3 a>4 5;4 c>6;5 c>7;6 d>9;7 d>8;bar 3>7;bar 3>8;"), 2, 0, 2, 16);
         ReinHall x = Check.of("0 a>1;1 b>2;bar 0>2;never 1;");
         round(x, 1, 0, 2, 8);
         Check.due("round(-1)", x.round(-1), ReinHall.BAD);
@@ -170,6 +172,7 @@ public final class WatchTest {
         x.wish(1, 0);
         x.wish(2, 1 << 5);
         Check.due("2, where 1 has none", x.wished(0), 4);
+        Check.due("the first doing of all", x.wished(1), 0);
         Check.due("nothing is let", x.wished(6), ReinHall.NONE);
         Check.due("not safe", x.wished(9), ReinHall.NONE);
         Check.due("state -1", x.wished(-1), ReinHall.BAD);

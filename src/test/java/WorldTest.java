@@ -107,6 +107,14 @@ public final class WorldTest {
         Check.tells("neve 1;", -10);
         Check.tells("nevers 1;", -10);
         Check.tells("  barr 0>1;", -12);
+        Check.tells("sever 1;", -10);
+        Check.tells("coal 1;", -10);
+        Check.tells("jest 1;", -10);
+        Check.tells("car 0>1;", -10);
+        Check.tells("never1;goal2;rest3 4;bar0>1;", 0);
+        Check.tells("0 a>1b;", -15);
+        Check.tells("0 a>1z;", -15);
+        Check.tells("0 a>1 2", -17);
         Check.tells("goa", -10);
         Check.tells("0 a>1; \200", -17);
         Check.tells("0 a>1; \377", -17);
@@ -207,6 +215,11 @@ public final class WorldTest {
         Check.due("never is gone", x.set(0), 0);
         Check.due("goals all together", x.set(1), 48);
         Check.due("rest is gone", x.set(2), 0);
+        Check.types(x, "5 b>9 8;2 c>3;bar 7>7;");
+        Check.due("what a faulty text told is gone, too", x.world(), 2);
+        Check.due("its lots are new", x.lot(5, 1, -1), 2);
+        Check.due("its lots are new", x.lot(2, 2, -1), 1);
+        Check.due("its bars are new", x.count(1), 1);
         Check.due("an empty text is a world", x.world(), 0);
         Check.due("no goals", x.set(1), 0);
     }
@@ -324,5 +337,8 @@ public final class WorldTest {
         Check.due("lots without dooms go ahead", y.instead(8, 0), 5);
         Check.due("even itself is not let there", y.instead(8, 6), 5);
         Check.due("rest that is never", y.instead(7, 0), ReinHall.NONE);
+        ReinHall z = Check.of("0 a>1;0 b>2;1 a>2;3 b>0;3 c>0;never 2;");
+        Check.due("the first doing of all", z.instead(0, 7), 0);
+        Check.due("alike dooms: the least", z.instead(3, 2), 1);
     }
 }
