@@ -166,6 +166,15 @@ public final class WorldTest {
     }
 
     private static void faultsOfNumber() {
+        Check.tells(";".repeat(600), -10);
+        Check.tells("a;>".repeat(200), -10);
+        Check.tells(" ".repeat(599) + "0", -610);
+        Check.tells(" ".repeat(599) + ";", -609);
+        Check.tells("0".repeat(600), -10);
+        Check.tells("z".repeat(600), -10);
+        Check.tells("goal 1" + " ".repeat(593) + ";", 0);
+        Check.tells("rest 1;".repeat(85) + "0a>1;", 1);
+        Check.tells("rest 1;".repeat(85) + "0a>1 ", -610);
         Check.tells("0 a>1 1;", -16);
         Check.tells("0 a>1 2 1;", -18);
         Check.tells("0 a>1 2 3 4;", 1);
