@@ -49,6 +49,21 @@ final class Check {
         due("bytes left of \"" + text + "\"", x.count(7), want <= -10 ? text.length() : 0);
     }
 
+    /** What a call answers on a new object after a script (see Hall). */
+    static void answers(String script, String line, long want) {
+        due(line + " after .." + end(script), Hall.of(script).says(Hall.call(line)), want);
+    }
+
+    /** A call is refused after a script, and nothing changes. */
+    static void refuses(String script, String line, long want) {
+        answers(script, line, want);
+        holds(line + " changes nothing after .." + end(script), Watch.changesNothing(script, Hall.call(line)));
+    }
+
+    private static String end(String script) {
+        return script.substring(Math.max(0, script.length() - 60)).replace('\n', ',');
+    }
+
     static void finish() {
         System.out.println("        " + checks + " checks, " + wrong + " wrong");
         if (wrong != 0 || checks == 0) {

@@ -137,7 +137,7 @@ final class PlainHall {
         return had;
     }
 
-    /** Tokens as {start, sort, value}; sorts: n a number, d a doing, w a word (its first sign), > ; ? and . at the end. */
+    /** Tokens as {start, sort, value}; sorts: n a number, d a doing, w a word (its first sign), > ; ? . (the end). */
     private List<int[]> tokens() {
         List<int[]> found = new ArrayList<>();
         java.util.regex.Matcher m = java.util.regex.Pattern.compile(" |[a-z]+|[0-9]+|[^ ]",

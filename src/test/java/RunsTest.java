@@ -3,6 +3,7 @@ import java.util.Random;
 /** Long runs of calls by fixed seeds: the class answers as PlainHall does, and never throws. */
 public final class RunsTest {
     private static final int RUNS = 1500;
+    /** No more calls of one object are promised. */
     private static final int CALLS = 512;
 
     private final Random random;
@@ -10,6 +11,7 @@ public final class RunsTest {
     private final PlainHall y = new PlainHall();
     private final StringBuilder told = new StringBuilder();
     private final int temper;
+    private int calls = 0;
 
     private RunsTest(long seed) {
         random = new Random(seed);
@@ -34,29 +36,27 @@ public final class RunsTest {
     }
 
     private boolean goesAlike(long seed, int[] answers) {
-        long worldText = 0;
+        boolean isTyped = false;
+        boolean mustClear = false;
         String left = worldText(8);
         if (temper == 3) {
             equip();
         }
-        for (int i = 0; i < CALLS; i++) {
+        while (calls < CALLS) {
             long[] pair;
             if (!left.isEmpty()) {
                 int n = Math.min(left.length(), 8);
                 pair = type(left.substring(0, n));
                 left = left.substring(n);
-                if (left.isEmpty()) {
-                    worldText = 1;
-                }
-            } else if (worldText == 1) {
-                worldText = 0;
-                told.append(" world()");
-                pair = new long[] {x.world(), y.world()};
+                isTyped = left.isEmpty();
+            } else if (isTyped) {
+                isTyped = false;
+                pair = says("world", x.world(), y.world());
                 answers[pair[0] >= 0 ? 6 : 7]++;
-                if (pair[0] < 0 && random.nextInt(3) > 0) {
-                    left = "";
-                    pair = pair[0] == pair[1] ? new long[] {x.clear(), y.clear()} : pair;
-                }
+                mustClear = pair[0] < 0 && random.nextInt(3) > 0;
+            } else if (mustClear) {
+                mustClear = false;
+                pair = says("clear", x.clear(), y.clear());
             } else if (random.nextInt(150) == 0) {
                 left = worldText(random.nextInt(9));
                 continue;
@@ -87,6 +87,7 @@ public final class RunsTest {
         for (char c : part.toCharArray()) {
             v = v << 8 | c;
         }
+        calls++;
         told.append(" type(").append(v).append("L, ").append(part.length()).append(")");
         return new long[] {x.type(v, part.length()), y.type(v, part.length())};
     }
@@ -198,6 +199,7 @@ public final class RunsTest {
     }
 
     private long[] says(String call, long got, long want, int... args) {
+        calls++;
         told.append(" ").append(call).append("(");
         for (int i = 0; i < args.length; i++) {
             told.append(i == 0 ? "" : ", ").append(args[i]);
