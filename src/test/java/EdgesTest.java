@@ -147,6 +147,9 @@ public final class EdgesTest {
             told(doom, "instead 7 0", 1);
             told(doom, "doom " + a, 2);
             told(b + "a>9;7a>" + b + ";7b>9;7c>" + b + " 9;never 7;", "instead 7 2", 0);
+            // a is broken: of two ways it is the worse one, alone and beside a safe one
+            told("4a>9;7a>" + a + ";7b>4;never 7 " + a + ";", "instead 7 0", 1);
+            told("4a>9;8a>8;7a>8 " + a + ";7b>4 8;never 7 " + a + ";", "instead 7 0", 1);
             told(a + "a>1;1a>2;bar " + a + ">2;", "round 0", 1);
             told("1a>2;2a>" + a + ";bar 1>" + a + ";", "round 0", 1);
         }
