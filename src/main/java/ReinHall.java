@@ -854,7 +854,7 @@ public final class ReinHall {
         /** False, if there is no room for it or it is told already. */
         boolean addLot(int state, int doing, int lot) {
             int w = wayOf(state, doing);
-            if (w < 0 || !isState(lot) || lotCounts[w] >= LOTS || hasBit(lotSets[w], lot)) {
+            if (w < 0 || !isState(lot) || !within(lotCounts[w], 0, LOTS - 1) || hasBit(lotSets[w], lot)) {
                 return false;
             }
             lots[w * LOTS + lotCounts[w]] = lot;
